@@ -56,7 +56,6 @@ public final class PortWarden {
     // Stands in the store beside the bytes 0 .. 255, so it must be none of them.
     private static final int END_MARK = 256;
 
-    private static final int BAD_FLAG = 1;
     private static final int BREAK_FLAG = 2;
     private static final int ALL_FLAGS = 3;
 
@@ -491,10 +490,10 @@ public final class PortWarden {
                 return 0;
             }
             if (b == BACKSPACE) {
-                return Math.max(0, columnNow - 1);
+                return columnNow > 0 ? columnNow - 1 : 0;
             }
             if (b == TAB) {
-                return columnNow + blanksOfTab();
+                return (columnNow / TAB_WIDTH + 1) * TAB_WIDTH;
             }
             return b >= BLANK && b != DELETE ? columnNow + 1 : columnNow;
         }
@@ -720,17 +719,15 @@ public final class PortWarden {
         }
 
         void expand(int b) {
-            draft.empty();
             if (b == NEWLINE && isOn(EXPANDS)) {
-                draft.add(RETURN);
-                draft.add(NEWLINE);
-            } else if (b == TAB && isOn(TABS)) {
-                int blanks = output.blanksOfTab();
-                for (int i = 0; i < blanks; i++) {
-                    draft.add(BLANK);
-                }
-            } else {
-                draft.add(b);
+                draftNewline();
+                return;
+            }
+            boolean isBlanks = b == TAB && isOn(TABS);
+            int bytes = isBlanks ? output.blanksOfTab() : 1;
+            draft.empty();
+            for (int i = 0; i < bytes; i++) {
+                draft.add(isBlanks ? BLANK : b);
             }
         }
 
@@ -738,34 +735,27 @@ public final class PortWarden {
             for (int i = 0; i < RECEIVER_ROOM && receiver.size > 0; i++) {
                 int item = receiver.takeFirst();
                 int b = item & 255;
-                if (!settledByFlags(item >> 8) && !settledByLiteral(b)
-                        && !settledAsFlow(b) && !settledAsSignal(b)) {
+                int flags = item >> 8;
+                if (flags != 0) {
+                    takeFlagged((flags & BREAK_FLAG) != 0);
+                } else if (literalNext) {
+                    literalNext = false;
+                    keepAndEcho(b);
+                } else if (!settledAsFlow(b) && !settledAsSignal(b)) {
                     edit(b == RETURN && isOn(MAPS) ? NEWLINE : b);
                 }
             }
         }
 
-        private boolean settledByFlags(int flags) {
-            if (flags == 0) {
-                return false;
-            }
-            boolean isBreak = (flags & BREAK_FLAG) != 0;
+        private void takeFlagged(boolean isBreak) {
             if (isBreak && isOn(SIGNALS)) {
                 signal(SIGNAL_INTERRUPT, modes[INTERRUPT]);
             } else if (isBreak || isOn(BAD_AS_ZERO)) {
-                keepAsItIs(0);
+                literalNext = false;
+                keepAndEcho(0);
             } else {
                 counts[DROPPED]++;
             }
-            return true;
-        }
-
-        private boolean settledByLiteral(int b) {
-            if (!literalNext) {
-                return false;
-            }
-            keepAsItIs(b);
-            return true;
         }
 
         private boolean settledAsFlow(int b) {
@@ -813,7 +803,8 @@ public final class PortWarden {
                 }
             }
             if (b != NO_BYTE) {
-                echoForm(b);
+                draftForm(b);
+                echo();
             }
         }
 
@@ -834,21 +825,18 @@ public final class PortWarden {
                 endLine(END_MARK);
             } else if (b == NEWLINE) {
                 if (endLine(NEWLINE)) {
-                    echoNewline();
+                    draftNewline();
+                    echo();
                 }
             } else {
                 keepAndEcho(b);
             }
         }
 
-        private void keepAsItIs(int b) {
-            literalNext = false;
-            keepAndEcho(b);
-        }
-
         private void keepAndEcho(int b) {
             if (keep(b)) {
-                echoForm(b);
+                draftForm(b);
+                echo();
             }
         }
 
@@ -889,8 +877,7 @@ public final class PortWarden {
         }
 
         private void reprint(int b) {
-            draft.empty();
-            addForm(b);
+            draftForm(b);
             draft.add(RETURN);
             draft.add(NEWLINE);
             for (int i = store.released; i < store.entries.size; i++) {
@@ -899,17 +886,15 @@ public final class PortWarden {
             echo();
         }
 
-        private void echoForm(int b) {
+        private void draftForm(int b) {
             draft.empty();
             addForm(b);
-            echo();
         }
 
-        private void echoNewline() {
+        private void draftNewline() {
             draft.empty();
             draft.add(RETURN);
             draft.add(NEWLINE);
-            echo();
         }
 
         private void addForm(int b) {

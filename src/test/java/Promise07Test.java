@@ -39,11 +39,14 @@ public final class Promise07Test {
         check.is("and may open it", x.open(1, 0), true);
         check.is("which takes it from nobody", x.read(0, 0), PortWarden.WAIT);
         check.is("now it is open again", x.open(0, 0), false);
+        x.open(7, 0);
         x.carrier(0, false);
-        x.close(0, 0);
+        x.close(1, 0);
         x.carrier(0, true);
         check.is("by a process that hadn't it", x.open(5, 0), true);
-        check.is("all others have it no more", x.close(1, 0), false);
+        check.is("all others have it no more", x.close(0, 0), false);
+        check.is("all of them", x.close(7, 0), false);
+        check.is("it has it", x.close(5, 0), true);
     }
 
     private static void wrongNumbers(Check check) {

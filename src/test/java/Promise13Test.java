@@ -98,6 +98,10 @@ public final class Promise13Test {
         PortWarden x = Play.opened();
         check.is("told", x.mode(0, Play.TIME, 7, 1), true);
         check.is("made by telling it", x.modeOf(0, Play.TIME), 7);
+        x.mode(0, Play.TIME, 6, 0);
+        x.tick();
+        check.is("made once", x.modeOf(0, Play.TIME), 6);
+        x.mode(0, Play.TIME, 7, 0);
         Play.type(x, "a");
         check.is("told behind an echo in the output's store", x.mode(0, Play.TIME, 8, 1), true);
         check.is("waits for it", x.modeOf(0, Play.TIME), 7);

@@ -108,6 +108,12 @@ public final class Promise21Test {
         x.tick();
         Play.type(x, "\003");
         check.is("what was passed was pushed behind that", Play.sent(x), "abcd^C");
+        for (int i = 0; i < 9; i++) {
+            x.receive(0, 'a' + i, 0);
+        }
+        x.tick();
+        Play.type(x, "j\003");
+        check.is("the sender takes eight at once", Play.sent(x), "abcdefgh^C");
         Play.type(x, "ab");
         x.mode(0, Play.KILL, 1, 1);
         x.mode(0, Play.ERASE, 2, 2);
