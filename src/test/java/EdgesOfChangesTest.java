@@ -14,6 +14,7 @@ public final class EdgesOfChangesTest {
         threeOfEachPort(check);
         roomForOneMore(check);
         madeInOrder(check);
+        madeOnce(check);
         takingTheStoreAway(check);
         madeByTransmit(check);
         madeByTick(check);
@@ -222,6 +223,28 @@ public final class EdgesOfChangesTest {
         check.is("the third", x.modeOf(0, Play.TIME), 3);
     }
 
+    private static void madeOnce(Check check) {
+        check.sentence("at most 3 of a port wait, and they are made: once");
+        PortWarden x = Play.opened();
+        x.mode(0, Play.TIME, 1, 1);
+        check.is("one that had nothing to wait for", x.modeOf(0, Play.TIME), 1);
+        x.mode(0, Play.TIME, 9, 0);
+        x.transmit(0);
+        x.tick();
+        check.is("is not made again", x.modeOf(0, Play.TIME), 9);
+        x.write(0, 0, 'a');
+        for (int i = 1; i < 4; i++) {
+            x.mode(0, Play.TIME, i, 1);
+        }
+        x.transmit(0);
+        check.is("three that waited", x.modeOf(0, Play.TIME), 3);
+        x.mode(0, Play.TIME, 9, 0);
+        x.tick();
+        x.flush(0, 1);
+        x.carrier(0, false);
+        check.is("are not made again", x.modeOf(0, Play.TIME), 9);
+    }
+
     private static void takingTheStoreAway(Check check) {
         check.sentence("without or with taking the store away; 2 likewise, taking the store away then");
         PortWarden x = Play.opened();
@@ -270,6 +293,12 @@ public final class EdgesOfChangesTest {
         check.is("made by that", x.modeOf(0, Play.TIME), 2);
         x.flush(0, 1);
         x.clear(0, true);
+        Play.type(x, "b");
+        x.mode(0, Play.TIME, 3, 1);
+        Play.type(x, "\003");
+        check.is("its byte was taken away, and the echo goes", x.transmit(0), '^');
+        check.is("made by that, too", x.modeOf(0, Play.TIME), 3);
+        x.flush(0, 1);
         x.write(0, 0, 'c');
         x.mode(0, Play.STOP, 'p', 1);
         Play.write(x, "d");

@@ -97,8 +97,13 @@ public final class EdgesOfEditingTest {
         x.mode(0, Play.CANON, 0, 0);
         Play.type(x, "abc");
         x.mode(0, Play.CANON, 1, 0);
-        Play.type(x, "\177\025d");
+        Play.type(x, "\177\025\027d");
         check.is("what came without mode 0 and is", readLine(x), "abcd\n");
+        x.mode(0, Play.CANON, 0, 0);
+        Play.type(x, "  ef ");
+        x.mode(0, Play.CANON, 1, 0);
+        Play.type(x, "\027 \027");
+        check.is("nor do WORD's blanks reach into it", readLine(x), "  ef \n");
     }
 
     private static void eachIsAnEchoOfItsOwn(Check check) {

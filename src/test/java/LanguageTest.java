@@ -1,6 +1,11 @@
 import java.io.IOException;
+import java.lang.reflect.Field;
+import java.lang.reflect.Method;
+import java.lang.reflect.Modifier;
 import java.nio.file.Files;
 import java.nio.file.Path;
+import java.util.HashSet;
+import java.util.Set;
 import java.util.regex.Matcher;
 import java.util.regex.Pattern;
 
@@ -24,7 +29,41 @@ public final class LanguageTest {
         }
         check.is("the longest method is short", longestMethod(code) <= 60, true);
         everyObjectIsMadeByAConstructor(check, code);
+        shapeOfClasses(check);
         check.finish();
+    }
+
+    private static void shapeOfClasses(Check check) {
+        Set<String> face = new HashSet<>();
+        for (Method method : PortWarden.class.getDeclaredMethods()) {
+            if (Modifier.isPublic(method.getModifiers())) {
+                face.add(method.getName());
+            }
+        }
+        Class<?>[] inside = PortWarden.class.getDeclaredClasses();
+        check.is("at most twelve classes", inside.length + 1 <= 12, true);
+        shapeOf(check, PortWarden.class, face);
+        for (Class<?> one : inside) {
+            check.is(one.getName() + " is static", Modifier.isStatic(one.getModifiers()), true);
+            check.is(one.getName() + " is not public", Modifier.isPublic(one.getModifiers()), false);
+            shapeOf(check, one, face);
+        }
+    }
+
+    private static void shapeOf(Check check, Class<?> one, Set<String> face) {
+        int fields = 0;
+        for (Field field : one.getDeclaredFields()) {
+            boolean isStatic = Modifier.isStatic(field.getModifiers());
+            check.is(field + " is final if it is static", !isStatic || Modifier.isFinal(field.getModifiers()), true);
+            fields += isStatic ? 0 : 1;
+        }
+        check.is(one.getName() + " has at most twenty fields", fields <= 20, true);
+        for (Method method : one.getDeclaredMethods()) {
+            check.is(method + " has at most seven parameters", method.getParameterCount() <= 7, true);
+            if (!Modifier.isPublic(method.getModifiers())) {
+                check.is(method + " bears a name of the face", face.contains(method.getName()), false);
+            }
+        }
     }
 
     private static int longestMethod(String code) {
