@@ -92,6 +92,9 @@ public final class EdgesOfFlowTest {
         x.receive(0, 'a', 1);
         x.poll(0, 0);
         check.is("nor is one that is dropped", x.held(0), 2);
+        x.receive(0, 'a', 2);
+        x.poll(0, 0);
+        check.is("nor is a break, which is no byte", x.held(0), 2);
         Play.type(x, "\021\026\023");
         check.is("a STOP behind LITERAL holds nothing", x.held(0), 0);
     }

@@ -249,6 +249,12 @@ public final class EdgesOfReceivingTest {
         check.is("behind a 0 it is over", x.signals(0), 1);
         Play.type(x, "\026\026\003");
         check.is("LITERAL itself may be the next", x.signals(0), 1);
+        Play.type(x, "\026");
+        x.receive(0, 'a', 2);
+        x.poll(0, 0);
+        check.is("a break is an INTERRUPT, and not stored", x.signals(0), 1);
+        Play.type(x, "\003");
+        check.is("so it was over behind the next, too", x.signals(0), 0);
     }
 
     private static void literalInAFullStore(Check check) {
